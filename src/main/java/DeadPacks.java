@@ -1103,7 +1103,7 @@ public final class DeadPacks {
         final boolean[] joined = new boolean[BENCHES];
         final int[] leanHold = new int[BENCHES];
         final int[] leanPass = new int[BENCHES];
-        /** TRUE HOLD of each CELL; 0 without. */
+        /** TRUE HOLD and TRUE PASS of each CELL; 0 without. */
         final int[] hold = new int[CELLS];
         final int[] pass = new int[CELLS];
         /** How many READINGS on JOINED BENCHES each CELL has. */
@@ -1118,8 +1118,9 @@ public final class DeadPacks {
             return counted[c] > 0;
         }
 
+        /** FLOW; 0 without, when the TRUE PASS is 0. */
         int flowOf(int c) {
-            return cut(has(c) ? MILLION : 0, pass[c]);
+            return cut(MILLION, pass[c]);
         }
 
         /** TRUE HOLD (what 1), TRUE PASS (2), SPREAD (3); NONE without. */
@@ -1479,7 +1480,6 @@ public final class DeadPacks {
         int unlike;
         private int s;
         private int each;
-        private int total;
         private final int[] hold = new int[MOST];
         private final int[] flow = new int[MOST];
         private final int[] row = new int[MOST];
@@ -1487,15 +1487,17 @@ public final class DeadPacks {
         private final int[] rowFlow = new int[MOST];
         private final int[] rowSize = new int[MOST];
         /** Of the CELLS from the i-th on the HOLDS of the k least, and the k greatest, added: at i WIDTH + k. */
-        private final int[] leastSum = new int[WIDTH * WIDTH];
-        private final int[] greatestSum = new int[WIDTH * WIDTH];
+        private final int[] leastHolds = new int[WIDTH * WIDTH];
+        private final int[] greatestHolds = new int[WIDTH * WIDTH];
+        /** Likewise their FLOWS. */
+        private final int[] leastFlows = new int[WIDTH * WIDTH];
+        private final int[] greatestFlows = new int[WIDTH * WIDTH];
         private final int[] rising = new int[MOST];
 
         void start(int cells, int rowsMany) {
             many = cells;
             s = rowsMany;
             each = cut(cells, rowsMany);
-            total = 0;
             weak = NONE;
             uneven = Integer.MAX_VALUE;
             unlike = Integer.MAX_VALUE;
@@ -1509,31 +1511,27 @@ public final class DeadPacks {
         void tell(int i, int cellHold, int cellFlow) {
             hold[i] = cellHold;
             flow[i] = cellFlow;
-            total += cellHold;
         }
 
         void find() {
-            for (int i = many - 1; i >= 0; i--) {
-                addRising(many - 1 - i, hold[i]);
-                sumRising(i * WIDTH, many - i);
-            }
+            addUp(hold, leastHolds, greatestHolds);
+            addUp(flow, leastFlows, greatestFlows);
             place(0, 0);
         }
 
-        private void addRising(int size, int value) {
-            int k = size;
-            for (; k > 0 && rising[k - 1] > value; k--) {
-                rising[k] = rising[k - 1];
-            }
-            rising[k] = value;
-        }
-
-        private void sumRising(int at, int size) {
-            leastSum[at] = 0;
-            greatestSum[at] = 0;
-            for (int k = 1; k <= size; k++) {
-                leastSum[at + k] = leastSum[at + k - 1] + rising[k - 1];
-                greatestSum[at + k] = greatestSum[at + k - 1] + rising[size - k];
+        private void addUp(int[] values, int[] least, int[] greatest) {
+            for (int i = many - 1; i >= 0; i--) {
+                int size = many - i;
+                int k = size - 1;
+                for (; k > 0 && rising[k - 1] > values[i]; k--) {
+                    rising[k] = rising[k - 1];
+                }
+                rising[k] = values[i];
+                int at = i * WIDTH;
+                for (int n = 1; n <= size; n++) {
+                    least[at + n] = least[at + n - 1] + rising[n - 1];
+                    greatest[at + n] = greatest[at + n - 1] + rising[size - n];
+                }
             }
         }
 
@@ -1562,12 +1560,13 @@ public final class DeadPacks {
 
         /** Whether what is placed so far may become better than the best; at: where the sums of the rest begin. */
         private boolean hopeful(int at) {
+            int total = greatestHolds[many];
             int mostWeak = cut(total, s);
-            int leastTop = 0;
+            int leastTop = cut(total + s - 1, s);
             for (int r = 0; r < s; r++) {
                 int open = each - rowSize[r];
-                mostWeak = Math.min(mostWeak, rowHold[r] + greatestSum[at + open]);
-                leastTop = Math.max(leastTop, rowHold[r] + leastSum[at + open]);
+                mostWeak = Math.min(mostWeak, rowHold[r] + greatestHolds[at + open]);
+                leastTop = Math.max(leastTop, rowHold[r] + leastHolds[at + open]);
             }
             // With such a top the other ROWS have too little left for them all to be as strong as the best's weakest.
             if (mostWeak < weak || leastTop > total - (s - 1) * weak) {
@@ -1576,38 +1575,37 @@ public final class DeadPacks {
             if (mostWeak > weak || leastTop - mostWeak < uneven) {
                 return true;
             }
-            return leastTop - mostWeak == uneven && fullUnlike() < unlike;
+            return leastTop - mostWeak == uneven && leastUnlike(at) < unlike;
         }
 
-        private int fullUnlike() {
-            int least = Integer.MAX_VALUE;
-            int greatest = 0;
+        /** The greatest FLOW is no less than the middle of all, the least one no more. */
+        private int leastUnlike(int at) {
+            int total = greatestFlows[many];
+            int bottom = cut(total, s);
+            int top = cut(total + s - 1, s);
             for (int r = 0; r < s; r++) {
-                if (rowSize[r] == each) {
-                    least = Math.min(least, rowFlow[r]);
-                    greatest = Math.max(greatest, rowFlow[r]);
-                }
+                int open = each - rowSize[r];
+                bottom = Math.min(bottom, rowFlow[r] + greatestFlows[at + open]);
+                top = Math.max(top, rowFlow[r] + leastFlows[at + open]);
             }
-            return greatest > least ? greatest - least : 0;
+            return top - bottom;
         }
 
+        /** With nothing left to place hopeful() is exact: what comes as far as here is better than the best. */
         private void take() {
-            int least = rowHold[0];
             int greatest = rowHold[0];
+            int leastFlow = rowFlow[0];
+            int greatestFlow = rowFlow[0];
+            weak = rowHold[0];
             for (int r = 1; r < s; r++) {
-                least = Math.min(least, rowHold[r]);
+                weak = Math.min(weak, rowHold[r]);
                 greatest = Math.max(greatest, rowHold[r]);
+                leastFlow = Math.min(leastFlow, rowFlow[r]);
+                greatestFlow = Math.max(greatestFlow, rowFlow[r]);
             }
-            int apart = greatest - least;
-            int flowApart = fullUnlike();
-            boolean better = least > weak || least == weak && apart < uneven
-                    || least == weak && apart == uneven && flowApart < unlike;
-            if (better) {
-                weak = least;
-                uneven = apart;
-                unlike = flowApart;
-                System.arraycopy(row, 0, best, 0, many);
-            }
+            uneven = greatest - weak;
+            unlike = greatestFlow - leastFlow;
+            System.arraycopy(row, 0, best, 0, many);
         }
     }
 

@@ -217,6 +217,9 @@ public final class PackTest {
         // 84 less 77: just one hour
         DUE.is("HOURS", Due.tape(x, 77, 65, 100, 82).balance(0), 1);
         DUE.is("LOST", x.lost(), 1 + 7);
+        Due.tape(x, 0, 0, 0, 0, 255, 255).end(4);
+        DUE.is("what was cut off counts no more", x.balance(0), 0);
+        DUE.is("HOURS", Due.tape(x, 77, 65, 100, 82).balance(0), 1);
         DUE.is("101", Due.tape(x, 0, 0, 0, 101).balance(0), -1);
         DUE.is("255", Due.tape(x, 0, 0, 0, 255).balance(0), -1);
         DUE.is("too few", Due.tape(x, 0, 0, 0).balance(0), -1);

@@ -132,6 +132,17 @@ public final class WeldTest {
         order("strip a 0+1-;strip d 5+6+ near 0-1+;strip c 3+4+ after d;", 1, 0, 2);
         none("strip a 0+1- near 0-1+;");
         none("strip a 0+1-;strip b 2+3+ after a near 0-1+;");
+        // the last of many must be the first, and then some of the others may not be done too early
+        String six = "strip a 0+1-;strip b 2+3+;strip c 4+5+;strip d 6+7+;strip e 8+9+;strip f 10+11+ near 0-1+;";
+        order(six, 1, 2, 3, 4, 5, 0);
+        order(six + "strip g 12+13+ after f near 2-3-;", 1, 2, 3, 4, 5, 0, 6);
+        order("strip a 0+1-;strip b 2+3-;strip c 4+5-;strip d 6+7-;strip e 8+9-;"
+                + "strip f 10+11+ near 0-1+ near 2-3+ near 4-5+ near 6-7+ near 8-9+;", 5, 0, 1, 2, 3, 4);
+        order("strip a 0+1-;strip b 2+3-;strip c 4+5- near 0-1+;strip d 6+7-;strip e 8+9- near 4-5+;strip f 20+21-;"
+                + "strip g 10+11+ near 0-1+ near 2-3+ near 4-5+ near 6-7+ near 8-9+ near 20-21+;", 6, 1, 3, 4, 2, 0, 5);
+        // a alone goes, but what b is 'after' then closes its way: found only behind many steps
+        order("strip a 0+1-;strip b 1+2-;strip c 3+4+;strip d 5+6+;strip e 7+8+;strip f 9+10+ after e near 0-2+;",
+                0, 2, 3, 4, 5, 1);
         // two that must be the first: there is none
         none("strip a 0+1- near 3-4+;strip b 3+4- near 0-1+;");
         order("strip a 0+1- near 3-5-;strip b 3+4-;strip c 4+5- near 0-1+;", 2, 0, 1);

@@ -649,7 +649,7 @@ public final class DeadPacks {
         }
 
         void step() {
-            while (next < size && (at(next) == ' ' || at(next) == '\n')) {
+            while (next < size && (bytes[next] == ' ' || bytes[next] == '\n')) {
                 next++;
             }
             word = NONE;
@@ -662,47 +662,39 @@ public final class DeadPacks {
                 place = size;
             } else {
                 place = next;
-                stepOver(at(next));
+                stepOver();
+                word = sort == WORD ? wordOf(value) : NONE;
             }
         }
 
-        private void stepOver(int c) {
-            if (isLetter(c) || isDigit(c)) {
-                stepOverRun();
-                return;
-            }
-            boolean sign = c == ';' || c == '+' || c == '-' || c == '(' || c == ')' || c >= '<' && c <= '>';
-            sort = sign ? c : WRONG;
-            next++;
-        }
-
-        private void stepOverRun() {
+        private void stepOver() {
+            int first = bytes[next];
             int letters = 0;
             int digits = 0;
-            for (; next < size && (isLetter(at(next)) || isDigit(at(next))); next++) {
-                int c = at(next);
-                if (isDigit(c)) {
+            for (; next < size; next++) {
+                int c = bytes[next];
+                if (c >= '0' && c <= '9') {
                     digits++;
                     value = value * 10 + c - '0';
-                } else {
+                } else if (c >= 'a' && c <= 'z') {
                     letters++;
                     value = value * 32 + c - 'a' + 1;
+                } else {
+                    break;
                 }
             }
-            if (digits == 0 && letters <= 6) {
-                sort = WORD;
-                word = wordOf(value);
+            if (letters + digits == 0) {
+                sort = isSign(first) ? first : WRONG;
+                next++;
+            } else if (digits == 0) {
+                sort = letters <= 6 ? WORD : WRONG;
             } else {
                 sort = letters == 0 && digits <= 3 ? NUMBER : WRONG;
             }
         }
 
-        private static boolean isLetter(int c) {
-            return c >= 'a' && c <= 'z';
-        }
-
-        private static boolean isDigit(int c) {
-            return c >= '0' && c <= '9';
+        private static boolean isSign(int c) {
+            return c == ';' || c == '+' || c == '-' || c == '(' || c == ')' || c >= '<' && c <= '>';
         }
 
         private static int wordOf(int value) {

@@ -222,6 +222,12 @@ public final class CellTest {
         DUE.is("not on JOINED benches", x.again(), 3);
         x.read(0, 0, 100, 10);
         DUE.is("now JOINED", x.again(), 0);
+        for (int c = 4; c < 60; c++) {
+            x.cell(0);
+        }
+        x.read(59, 0, 1, 10);
+        x.read(59, 0, 400, 10);
+        DUE.is("the last of sixty", x.again(), 59);
     }
 
     private static void falls() {

@@ -115,6 +115,9 @@ public final class HouseTest {
         refused(blanks(493) + "floor 1000;", 499, 1);
         refused(blanks(493) + "floor 000;", 499, 2);
         refused(blanks(494) + "bench a;", 500, 1);
+        // one that begins just there is not read at all
+        refused(blanks(494) + "floor 0;", 500, 1);
+        refused(blanks(493) + " bench" + "1" + ";", 494, 1);
         refused("x" + blanks(520), 0, 1);
         refused("noise 100;" + blanks(520), 6, 2);
         refused(blanks(494) + "bench" + blanks(1), 500, 1);

@@ -54,6 +54,7 @@ public final class PackTest {
         for (int p = 0; p < 10; p++) {
             DUE.is("ten", Due.tape(y, 2 * p, 2 * p + 1).pack(1, 0), p);
         }
+        DUE.is("all ten", y.held(0, 0), 1023);
         DUE.is("eleventh", Due.tape(y, 20, 21).pack(1, 0), -1);
         DeadPacks z = Due.holding(holds, passes);
         int[] bytes = new int[41];
@@ -64,6 +65,8 @@ public final class PackTest {
         DUE.is("of 40", Due.tape(z, java.util.Arrays.copyOf(bytes, 40)).pack(40, 0), 0);
         DUE.is("last", z.inPack(0, 39), 58);
         DUE.is("40 rows", z.row(0, 39, 0), 50);
+        DUE.is("40 rows, no help", Due.tape(z, 3).bestMend(0), 0);
+        DUE.is("the first place", z.bestBy(0), 19);
     }
 
     private static void wear() {
@@ -107,6 +110,7 @@ public final class PackTest {
         DUE.is("below the floor, no FADE", cycles("fade 0 0;", 99, 5), 0);
         DUE.is("as the floor", cycles("fade 1 0;", 100, 5), 1);
         DUE.is("below the floor", cycles("fade 1 0;", 99, 5), 0);
+        DUE.is("as the floor, the least there is", cycles("fade 0 1;floor 1;", 1, 10), 1);
         // R 9, 1 times 9 by 10, cut
         DUE.is("B is cut", cycles("fade 0 1;", 200, 9), 100000);
         // FADE 1: above 500000 cycles
@@ -152,6 +156,9 @@ public final class PackTest {
         }
         DUE.is("31st", x.mend(0, 4, 0, 999), false);
         DUE.is("count", x.count(6), 30);
+        DUE.is("held after all of them", x.held(0, 999), 1);
+        DUE.is("held by none", x.held(1, 999), 0);
+        DUE.is("ever held by none", x.held(1, -1), 0);
         // of another PACK
         DeadPacks y = five();
         Due.tape(y, 0, 1).pack(1, 0);
@@ -248,6 +255,9 @@ public final class PackTest {
         DUE.is("as much, not more", y.shorted(0), 0);
         Due.tape(y, 3, 2).pack(1, 0);
         DUE.is("37000 by 368, cut", y.shorted(2), 0);
+        DeadPacks w = Due.holding("fuse 226;bench b;box x;", new int[] {5, 5}, new int[] {81, 82});
+        Due.tape(w, 0, 1).pack(1, 0);
+        DUE.is("37000 by 163, just below 227", w.shorted(0), 0);
         DeadPacks z = Due.holding("fuse 100;bench b;box x;", new int[] {5, 5, 5, 5}, new int[] {183, 183, 400, 10});
         Due.tape(z, 2, 3, 0, 1).pack(2, 0);
         DUE.is("of its own ROW alone", z.shorted(0), 11);
@@ -284,6 +294,22 @@ public final class PackTest {
         Due.tape(y, 0, 1).pack(1, 0);
         y.mend(0, 0, 2, 5);
         y.mend(0, 1, 3, 7);
+        y.image(0);
+        Due.tape(y, "bench b;box x;box y;").house();
+        y.cell(0);
+        y.cell(0);
+        DUE.is("a new HOUSE holds nothing", y.held(0, 999), 0);
+        DUE.is("a new HOUSE never held", y.held(0, -1), 0);
+        y.restore(0);
+        DeadPacks z = Due.housed("bench b;box x;box y;");
+        for (int c = 0; c < 3; c++) {
+            z.cell(c == 0 ? 0 : 1);
+            z.read(c, 0, 50, 50);
+        }
+        Due.tape(z, 0, 1).pack(1, 0);
+        z.mend(0, 0, 2, 0);
+        DUE.is("gone on the day it came", z.held(0, 0), 0);
+        DUE.is("yet it was there", z.held(0, -1), 1);
         int[][] gone = {{0, 0, 1}, {0, 6, 1}, {0, 7, 0}, {0, 8, 0}, {0, -1, 1}, {1, 4, 0}, {1, 5, 1}, {1, -1, 1}};
         for (int[] d : gone) {
             DUE.is("gone: held(" + d[0] + ", " + d[1] + ")", y.held(d[0], d[1]), d[2]);

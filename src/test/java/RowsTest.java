@@ -163,6 +163,10 @@ public final class RowsTest {
         DUE.is("not TRUE", Due.tape(x, 2, 5).most(1, 1, 1), -1);
         DUE.is("no CELL", Due.tape(x, 2, 6).most(1, 1, 1), -1);
         DUE.is("the tape is empty then", x.count(8), 0);
+        Due.tape(x, 0, 1).pack(1, 0);
+        DUE.is("in a PACK is fine", Due.tape(x, 0, 1, 2).most(1, 1, 84), 3);
+        DUE.is("in a PACK is fine", Due.tape(x, 0, 1).swaps(2), 101);
+        DUE.is("told in any order", Due.tape(holding(10, 1, 5, 6), 0, 1, 2, 3).most(1, 2, 11), 2);
         int[] holds = new int[60];
         int[] bytes = new int[61];
         for (int i = 0; i < 60; i++) {

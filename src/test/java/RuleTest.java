@@ -99,6 +99,7 @@ public final class RuleTest {
         refused(" ".repeat(199) + "liar", 199, 1);
         refused(" ".repeat(199) + "lieslies", 199, 1);
         refused(" ".repeat(196) + "in zzz", 199, 3);
+        refused(" ".repeat(197) + "in zzz", 200, 1);
         refused(" ".repeat(540), 200, 1);
         refused(" ".repeat(300) + "!", 200, 1);
     }

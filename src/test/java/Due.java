@@ -9,12 +9,18 @@ final class Due {
 
     private int wrong;
     private int looked;
+    private String sentence = "";
+
+    /** The words of the document that what follows is about. */
+    void by(String words) {
+        sentence = "[" + words + "] ";
+    }
 
     void is(String what, long got, long want) {
         looked++;
         if (got != want) {
             wrong++;
-            System.out.println(what + " answered " + got + ", due is " + want);
+            System.out.println(sentence + what + " answered " + got + ", due is " + want);
         }
     }
 
@@ -27,7 +33,7 @@ final class Due {
         try {
             int got = call.answer();
             wrong++;
-            System.out.println(what + " answered " + got + ", due is NoSuchElementException");
+            System.out.println(sentence + what + " answered " + got + ", due is NoSuchElementException");
         } catch (NoSuchElementException asDue) {
             // as due
         }
@@ -60,6 +66,21 @@ final class Due {
             bytes[i] = text.charAt(i);
         }
         return tape(x, bytes);
+    }
+
+    /** The first n numbers from a first one on. */
+    static int[] from(int first, int n) {
+        int[] all = new int[n];
+        for (int i = 0; i < n; i++) {
+            all[i] = first + i;
+        }
+        return all;
+    }
+
+    static int[] alike(int value, int n) {
+        int[] all = new int[n];
+        java.util.Arrays.fill(all, value);
+        return all;
     }
 
     static DeadPacks housed(String text) {

@@ -56,14 +56,22 @@ public final class StateEdgeTest {
         DUE.is("20", x.feed(0x01020304, 0x05060708, 0x09000000, 0, 0), 20);
         x.end(9);
         DUE.is("SHARE of 1 to 9", x.share(1), 45);
-        // each byte of each number in its place: one strip after the other, the first that is none
-        Due.tape(x, "strip a 0+1+;strip b 0+1+;strip c 0+1+;strip d 0+1+;").welds();
+        // each byte of each number in its place: the PACK tells them again
+        DeadPacks y = Due.holding(Due.alike(5, 60), Due.alike(5, 60));
+        DUE.is("20", y.feed(0x3b000102, 0x20212223, 0x07060504, 0x3a39380a, 0x0f0d0b09), 20);
+        DUE.is("PACK", y.pack(1, 0), 0);
+        int[] due = {59, 0, 1, 2, 32, 33, 34, 35, 7, 6, 5, 4, 58, 57, 56, 10, 15, 13, 11, 9};
         for (int i = 0; i < 20; i++) {
-            int[] five = new int[5];
-            five[i / 4] = 7 << 24 - i % 4 * 8;
-            x.feed(five[0], five[1], five[2], five[3], five[4]);
-            // byte i is 7, all others 0: 0 0 is told twice in place 1, and 7 is no strip
-            DUE.is("byte " + i, x.check(), i == 0 ? 0 : 1);
+            DUE.is("byte " + i, y.inPack(0, i), due[i]);
+        }
+        y.feed(0x08101112, 0, 0, 0, 0);
+        y.end(4);
+        y.feed(0x13141516, 0, 0, 0, 0);
+        y.end(8);
+        DUE.is("PACK", y.pack(1, 0), 1);
+        int[] then = {8, 16, 17, 18, 19, 20, 21, 22};
+        for (int i = 0; i < 8; i++) {
+            DUE.is("byte " + i, y.inPack(1, i), then[i]);
         }
         // a law's digits straddle two calls
         DUE.is("20", x.feed(0x20202020, 0x20202020, 0x20202020, 0x20206e6f, 0x69736520), 20);

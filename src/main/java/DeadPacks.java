@@ -29,8 +29,6 @@ public final class DeadPacks {
     private static final int LIES = 14;
     private static final int USED = 15;
     private static final int HOLD = 16;
-    private static final int PASS = 17;
-    private static final int SPREAD = 18;
     private static final int CELL = 19;
     private static final int STRIP = 20;
     private static final int AFTER = 21;
@@ -1490,9 +1488,10 @@ public final class DeadPacks {
             many = cells;
             s = rowsMany;
             each = cut(cells, rowsMany);
+            // No way has so little WEAK, so the first that is tried is better, whatever stands here besides.
             weak = NONE;
-            uneven = Integer.MAX_VALUE;
-            unlike = Integer.MAX_VALUE;
+            uneven = 0;
+            unlike = 0;
             for (int r = 0; r < s; r++) {
                 rowHold[r] = 0;
                 rowFlow[r] = 0;

@@ -17,6 +17,7 @@ public final class PackEdgeTest {
         fadeCut();
         cyclesFloor();
         cyclesMost();
+        cyclesLast();
         lifeFirstRow();
         mendDays();
         mendCells();
@@ -35,6 +36,7 @@ public final class PackEdgeTest {
         shortedOwn();
         shortedRefused();
         heldDays();
+        heldOthers();
         heldEver();
         heldRefused();
         DUE.finish();
@@ -246,6 +248,27 @@ public final class PackEdgeTest {
         // the least floor, FADE 10: a HOLD of 2000 and less never comes to 100000
         DUE.is("FADE 9: 100000", cycles("fade 0 9;floor 1;", 400, 10), 100000);
         DUE.is("FADE 9: below", cycles("fade 0 9;floor 99;", 400, 10), counted(0, 9, 99, 400, 100000));
+    }
+
+    /** Two ROWS of twenty CELLS, FADE 9, floor 800: HOLD 8000 would last 100001, HOLD 7999 lasts 99999. */
+    private static void cyclesLast() {
+        DUE.by("100000; that, if there is none less: 99999 is less");
+        int[] holds = Due.alike(400, 40);
+        holds[39] = 399;
+        DeadPacks x = Due.holding("bench b;box x;fade 0 45;floor 800;", holds, Due.alike(50, 40));
+        Due.tape(x, Due.from(0, 40)).pack(2, 0);
+        DUE.is("HOLD 8000", x.row(0, 0, 2), 100000);
+        DUE.is("HOLD 7999", x.row(0, 1, 2), 99999);
+        DUE.is("counted", counted(0, 45, 800, 7999, 400000), 99999);
+        DUE.is("LIFE", x.life(0), 99999);
+        DUE.is("the ROW that ends it", x.ends(0), 1);
+        x.cell(0);
+        x.read(40, 0, 400, 50);
+        DUE.is("a spare one of 400", Due.tape(x, 40).bestMend(0), 100000);
+        DUE.is("for that of 399", x.bestBy(0), 39);
+        x.mend(0, 39, 40, 0);
+        DUE.is("LIFE then", x.life(0), 100000);
+        DUE.is("of like ones the first", x.ends(0), 0);
     }
 
     /** CYCLES of a ROW of two like CELLS. */
@@ -630,6 +653,39 @@ public final class PackEdgeTest {
         DUE.is("the DAY ahead", x.held(0, 8), 0);
         DUE.is("on and on", x.held(0, 999), 1);
         DUE.is("a BOX without CELLS", x.held(2, 999), 0);
+    }
+
+    private static void heldOthers() {
+        DUE.by("HELD: each PACK by what was MENDED on it, place by place");
+        DeadPacks x = Due.housed("bench b;box x;box y;");
+        for (int c = 0; c < 8; c++) {
+            x.cell(c < 4 ? 0 : 1);
+            x.read(c, 0, 50, 50);
+        }
+        Due.tape(x, 0, 1).pack(1, 5);
+        Due.tape(x, 4, 5).pack(1, 5);
+        Due.tape(x, 2, 3).pack(1, 6);
+        x.mend(1, 4, 6, 10);
+        DUE.is("one of y for another one", x.held(1, 9), 2);
+        DUE.is("one of y for another one", x.held(1, 10), 2);
+        x.mend(2, 2, 4, 20);
+        DUE.is("y ahead of it", x.held(1, 19), 2);
+        DUE.is("y in PACK 2 too", x.held(1, 20), 6);
+        DUE.is("x in PACK 2 still", x.held(0, 20), 5);
+        x.mend(2, 3, 7, 30);
+        DUE.is("x in PACK 2 no more", x.held(0, 30), 1);
+        DUE.is("x in PACK 2 till then", x.held(0, 29), 5);
+        x.mend(0, 1, 2, 40);
+        DUE.is("PACK 0 all along", x.held(0, 39), 1);
+        DUE.is("PACK 0 all along", x.held(0, 40), 1);
+        DUE.is("not y", x.held(1, 40), 6);
+        x.mend(1, 6, 3, 50);
+        x.mend(1, 5, 1, 60);
+        DUE.is("PACK 1: both", x.held(0, 50), 3);
+        DUE.is("PACK 1: both", x.held(1, 59), 6);
+        DUE.is("PACK 1: x alone", x.held(1, 60), 4);
+        DUE.is("ever x", x.held(0, -1), 7);
+        DUE.is("ever y", x.held(1, -1), 6);
     }
 
     private static void heldEver() {

@@ -185,6 +185,7 @@ public final class WeldEdgeTest {
         order("strip a 4+5-;strip b 2+3+;strip c 0+1+;strip d 6+7+ near 4-5+;", 1, 2, 3, 0);
         // a and b together are what d is near to: either may come first, then d
         order("strip a 0+1-;strip b 1+2-;strip c 8+9+;strip d 6+7+ near 0-2+;", 0, 2, 3, 1);
+        lateEnds();
         StringBuilder twelve = new StringBuilder();
         for (int k = 0; k < 11; k++) {
             twelve.append("strip ").append((char) ('a' + k)).append(' ').append(2 * k).append('+').append(2 * k + 1)
@@ -195,6 +196,21 @@ public final class WeldEdgeTest {
             twelve.append("near ").append(2 * k).append('-').append(2 * k + 1).append('+');
         }
         order(twelve + ";", 11, 0, 1, 2, 3, 4, 5, 6, 7, 8, 9, 10);
+    }
+
+    /** Beginnings that end nowhere, though none of the strips that are left SHORTS as yet. */
+    private static void lateEnds() {
+        // a must be behind d, and d behind c, so a can't be the first; b may come at any time
+        order("strip a 10+11-;strip b 1+1+;strip c 11+12-;strip d 2+2+ after c near 10-12+;", 1, 2, 3, 0);
+        // a must also be ahead of b
+        order("strip a 10+11- near 10-12+;strip b 11+12-;strip c 11+13-;strip d 2+2+ after c near 10-13+;", 2, 3, 0, 1);
+        // likewise f behind i behind g, with strips ahead and between that may come at any time
+        order("strip a 1+1+;strip b 1+1+;strip c 1+1+;strip d 1+1+;strip e 1+1+;strip f 10+11-;strip g 11+12-;"
+                + "strip h 1+1+;strip i 2+2+ after g near 10-12+;", 0, 1, 2, 3, 4, 6, 7, 8, 5);
+        // b must be ahead of a, but it is behind a
+        none("strip a 10+11-;strip b 2+2+ after a near 10-11+;strip c 1+1+;");
+        // c must be behind b, and what is near to it must be ahead of b
+        none("strip a 10+11-;strip b 11+12- after a;strip c 2+2+ after b near 10-12+;");
     }
 
     private static void noOrder() {

@@ -5,6 +5,7 @@ public final class CellEdgeTest {
 
     public static void main(String[] args) {
         sixty();
+        sixtyRead();
         noSuchBox();
         twoHundredReadings();
         holdAndPass();
@@ -55,6 +56,31 @@ public final class CellEdgeTest {
         DUE.is("60", x.count(2), 60);
         DUE.is("the last one is there", x.read(59, 0, 5, 5), 0);
         DUE.is("one more is not", x.read(60, 0, 5, 5), -1);
+    }
+
+    private static void sixtyRead() {
+        DUE.by("CELLS (60): all of them on several BENCHES");
+        DeadPacks x = cells("bench a;bench b;bench c;bench d;bench e;bench f;box x;", 60);
+        for (int c = 0; c < 60; c++) {
+            x.read(c, 0, 100 + c, 100);
+        }
+        for (int c = 0; c < 60; c++) {
+            x.read(c, 5, 110 + c, 107);
+        }
+        DUE.is("all alike", x.again(), 0);
+        x.read(59, 4, 170, 100);
+        x.read(59, 5, 170, 107);
+        DUE.is("BENCH 5 by sixty", x.lean(5, 0), 10);
+        DUE.is("BENCH 5 by sixty", x.lean(5, 1), 7);
+        DUE.is("BENCH 4 by the last one: TRUE (159 + 159 + 160) by 3", x.lean(4, 0), 11);
+        DUE.is("BENCH 3 shares none", x.lean(3, 2), 0);
+        DUE.is("the last one's SPREAD", x.about(59, 3), 1);
+        DUE.is("AGAIN", x.again(), 59);
+        DUE.is("no CELL 60", x.lies(60), -1);
+        x.rest(59, 0, 4000, 99);
+        Due.tape(x, "lies or cell=59").rule();
+        DUE.is("the last one MEETS it", x.meets(0), 59);
+        DUE.is("alone", x.meets(-1), 1);
     }
 
     private static void noSuchBox() {

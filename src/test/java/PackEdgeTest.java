@@ -38,6 +38,7 @@ public final class PackEdgeTest {
         heldDays();
         heldOthers();
         heldEver();
+        heldThirty();
         heldRefused();
         DUE.finish();
     }
@@ -229,6 +230,9 @@ public final class PackEdgeTest {
         DUE.is("as the floor after 500", cycles("fade 99 10;floor 200;", 400, 10), 501);
         DUE.is("floor 201", cycles("fade 99 10;floor 201;", 400, 10), 498);
         DUE.is("floor 1", cycles("fade 99 10;floor 1;", 1, 10), 1);
+        DUE.is("HOLD 1, FADE 1, floor 1", cycles("fade 0 1;floor 1;", 1, 10), 1);
+        DUE.is("HOLD 1, FADE 0, floor 1", cycles("fade 0 0;floor 1;", 1, 10), 100000);
+        DUE.is("HOLD 1, FADE 0, floor 2", cycles("fade 0 0;floor 2;", 1, 10), 0);
         DUE.is("floor 999", cycles("floor 999;", 400, 10), 0);
         DeadPacks x = Due.holding("bench b;box x;floor 999;", new int[] {400, 400, 199, 1}, Due.alike(10, 4));
         Due.tape(x, 0, 1, 2).pack(1, 0);
@@ -393,6 +397,21 @@ public final class PackEdgeTest {
         DUE.is("in another PACK", Due.tape(x, 2, 13).bestMend(0), -1);
         DUE.is("free ones", Due.tape(x, 2, 11).bestMend(0), x.life(0));
         DUE.is("the tape is empty then", x.count(8), 0);
+        DUE.by("BEST MEND of a PACK of 40 CELLS in as many ROWS, the last of 10");
+        DeadPacks y = Due.holding(Due.from(101, 50), Due.alike(50, 50));
+        for (int p = 0; p < 5; p++) {
+            Due.tape(y, 2 * p, 2 * p + 1).pack(1, 0);
+            DUE.is("one by one", Due.tape(y, 49).bestMend(p) >= y.life(p), true);
+        }
+        int[] forty = Due.from(10, 40);
+        forty[0] = 49;
+        forty[39] = 10;
+        y.cell(0);
+        y.read(50, 0, 200, 50);
+        Due.tape(y, forty).pack(40, 0);
+        DUE.is("ends", y.ends(5), 39);
+        DUE.is("by the one of 200", Due.tape(y, 50).bestMend(5), y.row(5, 1, 2));
+        DUE.is("for the last", y.bestBy(0), 10);
     }
 
     private static void bestRefused() {
@@ -463,6 +482,9 @@ public final class PackEdgeTest {
         Due.tape(x, 2).bestMend(0);
         DUE.is("a refused one is none", x.bestBy(0), -1);
         Due.tape(x, 0, 1).pack(2, 0);
+        DUE.is("no spare ones", Due.tape(x).bestMend(0), -1);
+        DUE.is("still ahead of any", x.bestBy(0), -1);
+        DUE.is("still ahead of any", x.bestBy(1), -1);
         Due.tape(x, 2).bestMend(0);
         int[] due = {-1, 1, 2, -1};
         for (int what = -1; what <= 2; what++) {
@@ -470,6 +492,7 @@ public final class PackEdgeTest {
         }
         Due.tape(x, 3, 3).bestMend(0);
         Due.tape(x, 3).bestMend(1);
+        Due.tape(x).bestMend(0);
         DUE.is("refused ones leave it", x.bestBy(1), 2);
         x.mend(0, 1, 2, 0);
         DUE.is("so does mend()", x.bestBy(0), 1);
@@ -582,6 +605,10 @@ public final class PackEdgeTest {
         DUE.is("more than 369", shorted(369, 50, 50), 11);
         DUE.is("37000 by 101 is 366.3", shorted(366, 50, 51), 0);
         DUE.is("more than 365", shorted(365, 50, 51), 11);
+        DUE.is("37000 by 227 is 162.996", shorted(162, 100, 127), 0);
+        DUE.is("more than 161", shorted(161, 100, 127), 11);
+        DUE.is("37000 by 185 is 200", shorted(200, 100, 85), 0);
+        DUE.is("more than 199", shorted(199, 100, 85), 11);
         DUE.is("18500, far more than 999", shorted(999, 1, 1), 11);
         DUE.is("37000 by 1998 is 18", shorted(18, 999, 999), 0);
         DUE.is("more than 17", shorted(17, 999, 999), 11);
@@ -702,6 +729,27 @@ public final class PackEdgeTest {
         Due.tape(x, 2, 3).pack(1, 0);
         DUE.is("PACK 1 too", x.held(1, -1), 3);
         DUE.is("not this one", x.held(0, -1), 1);
+        DeadPacks y = boxed();
+        Due.tape(y, 0, 2).pack(1, 7);
+        y.mend(0, 0, 3, 7);
+        DUE.is("the first that went out", y.held(0, -1), 1);
+        DUE.is("not by the end of that DAY", y.held(0, 7), 0);
+    }
+
+    private static void heldThirty() {
+        DUE.by("HELD when 30 were MENDED");
+        DeadPacks x = boxed();
+        Due.tape(x, 0, 1).pack(1, 0);
+        for (int i = 0; i < 30; i++) {
+            DUE.is("one of 30", x.mend(0, i % 2 == 0 ? 0 : 2, i % 2 == 0 ? 2 : 0, 10 + i), true);
+        }
+        for (int day = 0; day < 60; day++) {
+            DUE.is("y on " + day, x.held(1, day), day >= 10 && day < 40 && day % 2 == 0 ? 1 : 0);
+            DUE.is("x on " + day, x.held(0, day), 1);
+            DUE.is("z on " + day, x.held(2, day), 0);
+        }
+        DUE.is("y ever", x.held(1, -1), 1);
+        DUE.is("z never", x.held(2, -1), 0);
     }
 
     private static void heldRefused() {

@@ -13,6 +13,7 @@ public final class RowsEdgeTest {
         greatestWeak();
         leastUneven();
         leastUnlike();
+        allWays();
         firstWay();
         rowAtLatest();
         rowsByLatest();
@@ -158,6 +159,70 @@ public final class RowsEdgeTest {
         DUE.is("WEAK", Due.tape(w, 0, 1, 2, 3).rows(2), 15);
         rowsAre(w, 0, 0, 1, 1);
         DUE.is("UNLIKE", w.rowsBy(1), 100000);
+    }
+
+    private static int[] bestWay;
+    private static int[] bestNumbers;
+
+    /** All ways in order, plainly: the best one's ROWS, WEAK, UNEVEN, UNLIKE. */
+    private static void tryAll(int[] holds, int[] flows, int s, int[] rows, int i, int used) {
+        int n = holds.length;
+        if (i == n) {
+            int[] sums = new int[s];
+            int[] flow = new int[s];
+            int[] many = new int[s];
+            for (int k = 0; k < n; k++) {
+                sums[rows[k]] += holds[k];
+                flow[rows[k]] += flows[k];
+                many[rows[k]]++;
+            }
+            for (int r = 0; r < s; r++) {
+                if (many[r] != n / s) {
+                    return;
+                }
+            }
+            Arrays.sort(sums);
+            Arrays.sort(flow);
+            int[] told = {-sums[0], sums[s - 1] - sums[0], flow[s - 1] - flow[0]};
+            if (bestNumbers == null || Arrays.compare(told, bestNumbers) < 0) {
+                bestNumbers = told;
+                bestWay = rows.clone();
+            }
+            return;
+        }
+        for (int r = 0; r <= used && r < s; r++) {
+            rows[i] = r;
+            tryAll(holds, flows, s, rows, i + 1, Math.max(used, r + 1));
+        }
+    }
+
+    private static void allWays() {
+        DUE.by("the greatest WEAK; then the least UNEVEN; then the least UNLIKE; then the first: of all ways");
+        int[][] holds = {{5, 5, 5, 5}, {5, 5, 5, 5, 5, 5}, {3, 1, 2, 3, 1, 2}, {9, 1, 8, 2, 7, 3, 6, 4}, {1, 2, 3, 4, 5, 6, 7, 8},
+            {4, 4, 4, 4, 5, 5, 5, 5}, {1, 1, 1, 1, 1, 1, 1, 20}, {6, 6, 6, 6, 6, 6, 6, 6}, {2, 2, 2, 3, 3, 3, 1, 1, 1}};
+        int[][] passes = {{10, 20, 40, 80, 160, 320, 640, 999, 500}, {500, 20, 500, 30, 500, 30, 500, 20, 10},
+            {900, 901, 905, 920, 940, 960, 980, 999, 930}, {999, 3, 3, 3, 999, 999, 7, 7, 7}, {50, 50, 50, 50, 50, 50, 50, 50, 50}};
+        for (int[] h : holds) {
+            for (int[] p : passes) {
+                int n = h.length;
+                int[] flows = new int[n];
+                for (int i = 0; i < n; i++) {
+                    flows[i] = 1000000 / p[i];
+                }
+                DeadPacks x = Due.holding(h, Arrays.copyOf(p, n));
+                for (int s = 1; s <= n; s++) {
+                    if (n % s == 0) {
+                        bestNumbers = null;
+                        tryAll(h, flows, s, new int[n], 0, 0);
+                        String what = Arrays.toString(h) + " " + Arrays.toString(flows) + " in " + s;
+                        DUE.is(what + ": WEAK", Due.tape(x, Due.from(0, n)).rows(s), -bestNumbers[0]);
+                        DUE.is(what + ": UNEVEN", x.rowsBy(0), bestNumbers[1]);
+                        DUE.is(what + ": UNLIKE", x.rowsBy(1), bestNumbers[2]);
+                        rowsAre(x, bestWay);
+                    }
+                }
+            }
+        }
     }
 
     private static void firstWay() {
@@ -647,6 +712,12 @@ public final class RowsEdgeTest {
         sharesAre(x, 0, 1, 2, 3);
         Due.tape(x, 1, 1, 2, 2).share(3);
         sharesAre(x, 0, 0, 1, 2);
+        DUE.is("one bench, behind others", Due.tape(x, 1, 1, 2, 2).share(1), 6);
+        sharesAre(x, 0, 0, 0, 0);
+        Due.tape(x, 9, 1, 1).share(2);
+        sharesAre(x, 0, 1, 1);
+        DUE.is("one bench, behind others", Due.tape(x, 9, 1, 1).share(1), 11);
+        sharesAre(x, 0, 0, 0);
     }
 
     private static void shareAtLatest() {

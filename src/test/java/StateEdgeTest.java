@@ -141,6 +141,19 @@ public final class StateEdgeTest {
         x.feed(0x02020000, 0, 0, 0, 0);
         x.end(3);
         DUE.is("1 2 2", x.share(1), 5);
+        Due.tape(x, 5, 6, 7, 0, 255);
+        x.end(3);
+        DUE.is("0 and 255 are behind it", x.share(1), 18);
+        DeadPacks y = packed();
+        Due.tape(y, 50, 50, 200, 200);
+        y.end(2);
+        DUE.is("200 is behind it", y.balance(0) >= 0, true);
+        Due.tape(y, 3, 3, 3);
+        y.end(1);
+        DUE.is("3 again is behind it", y.most(1, 1, 1), 1);
+        Due.tape(y, 0, 0);
+        y.end(1);
+        DUE.is("0 again is behind it", y.check(), -1);
     }
 
     private static DeadPacks packed() {

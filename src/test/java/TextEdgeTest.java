@@ -12,6 +12,8 @@ public final class TextEdgeTest {
         digits();
         signs();
         goingOn();
+        otherBytes();
+        restOfTape();
         houseLength();
         houseEmpty();
         laws();
@@ -172,6 +174,62 @@ public final class TextEdgeTest {
         noWelds("strip a0+1-;", 6, 1);
         welds("strip a 0+1-near 0+1-;", 1);
         noWelds("strip a 0+1-near0+1-;", 12, 1);
+    }
+
+    private static void otherBytes() {
+        DUE.by("1 no TOKEN: each byte that is none, wherever a TOKEN may come");
+        for (char c = 0; c < 256; c++) {
+            boolean blank = c == ' ' || c == '\n';
+            boolean word = c >= 'a' && c <= 'z';
+            boolean digit = c >= '0' && c <= '9';
+            String name = "bench " + c + ";";
+            told("house", name, word ? 1 : blank ? -8 : -7, word ? 0 : 1);
+            told("house", "noise " + c + ";", digit ? 1 : blank ? -8 : -7, digit ? 0 : 1);
+            told("house", "noise 5;" + c, blank ? 1 : -9, blank ? 0 : 1);
+            told("rule", "hold>5 " + c, blank ? 1 : -8, blank ? 0 : 1);
+            told("rule", "" + c, blank || c == '(' ? -2 : -1, 1);
+            told("rule", "hold>" + c, digit ? 1 : blank ? -7 : -6, digit ? 0 : 1);
+            told("rule", "in " + c, c == 'x' ? 1 : blank ? -5 : -4, c == 'x' ? 0 : word ? 3 : 1);
+            told("welds", "" + c, blank ? 0 : -1, blank ? 0 : 1);
+            told("welds", "strip a " + c + "+1+;", digit ? 1 : blank ? -10 : -9, digit ? 0 : 1);
+            told("welds", "strip " + c + " 0+1+;", word ? 1 : blank ? -9 : -7, word ? 0 : 1);
+        }
+    }
+
+    /** A text of the tape's first n bytes; the others still stood there when it was told. */
+    private static void cutTo(String call, String text, int n, int answer, int fault) {
+        DeadPacks x = Due.housed("bench q;box x;box yellow;");
+        Due.tape(x, text);
+        x.end(n);
+        int got = call.equals("house") ? x.house() : call.equals("rule") ? x.rule() : x.welds();
+        DUE.is(call + " of the first " + n + " of '" + brief(text) + "'", got, answer);
+        DUE.is("its fault", x.fault(), fault);
+    }
+
+    private static void restOfTape() {
+        DUE.by("The tape has its first n bytes alone: a text ends there");
+        cutTo("house", "noise 5;;", 8, 1, 0);
+        cutTo("house", "noise 5;;", 7, -8, 1);
+        cutTo("house", "bench abcdefg", 12, -13, 1);
+        cutTo("house", "floor 1000", 9, -10, 1);
+        cutTo("rule", "in xyz", 4, 1, 0);
+        cutTo("rule", "in yellows", 9, 1, 0);
+        cutTo("rule", "in yellows", 8, -4, 3);
+        cutTo("rule", "hold>9999", 8, 1, 0);
+        cutTo("rule", "lies or used", 4, 1, 0);
+        cutTo("rule", "liesused", 4, 1, 0);
+        cutTo("rule", "lies9", 4, 1, 0);
+        cutTo("rule", "lies used", 5, 1, 0);
+        cutTo("welds", "strip a 0+1-;strip b 0+1-;", 13, 1, 0);
+        cutTo("welds", "strip a 0+1-;strip b 0+1-;", 25, -26, 1);
+        DUE.by("TOKENS that begin ahead of it are read whole: to the tape's last byte");
+        noHouse(gap(499) + "a".repeat(41), 499, 1);
+        noHouse(gap(499) + "5".repeat(41), 499, 1);
+        noHouse("bench " + gap(493) + "b".repeat(41), 499, 1);
+        noHouse("bench a;" + gap(490) + "noise " + "5".repeat(36), 500, 1);
+        noRule("a".repeat(540), 0, 1);
+        noRule("not " + "9".repeat(536), 4, 1);
+        noWelds("5".repeat(540), 0, 1);
     }
 
     private static void houseLength() {

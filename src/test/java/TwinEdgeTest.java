@@ -69,6 +69,15 @@ public final class TwinEdgeTest {
         DeadPacks y = packed();
         y.read(2, 0, 50, 999);
         DUE.is("shorted: 37000 by 524 and 50", y.shorted(2), 0);
+        DeadPacks v = packed();
+        DUE.is("ends", v.ends(0), 0);
+        v.read(1, 0, 50, 50);
+        DUE.is("ends", v.ends(0), 1);
+        v.image(0);
+        v.read(0, 0, 1, 50);
+        DUE.is("ends", v.ends(0), 0);
+        v.restore(0);
+        DUE.is("ends", v.ends(0), 1);
         DeadPacks z = packed();
         z.cell(0);
         DUE.is("not TRUE yet", z.mend(0, 0, 6, 20), false);
@@ -355,19 +364,20 @@ public final class TwinEdgeTest {
 
     private static void noOldCells() {
         DUE.by("BEST MEND: the CELL of the PACK (of what stood in those places ahead it has none)");
-        DeadPacks x = Due.holding(new int[] {150, 150, 150, 150, 400, 400}, Due.alike(50, 6));
+        DeadPacks x = Due.holding(Due.alike(150, 6), Due.alike(50, 6));
         Due.tape(x, 0, 1, 2, 3, 4, 5).pack(1, 0);
         Due.tape(x, "bench b;box x;").house();
-        for (int c = 0; c < 6; c++) {
+        int[] holds = {150, 150, 150, 150, 400, 400, 100};
+        for (int c = 0; c < 7; c++) {
             x.cell(0);
-            x.read(c, 0, c < 3 ? 150 : 100, 50);
+            x.read(c, 0, holds[c], 50);
         }
-        Due.tape(x, 0, 1).pack(2, 0);
+        Due.tape(x, 0, 1, 2, 3).pack(2, 0);
         int now = x.life(0);
-        int told = Due.tape(x, 3).bestMend(0);
+        int told = Due.tape(x, 6).bestMend(0);
         DUE.is("worse than now", told < now, true);
         DUE.is("first place", x.bestBy(0), 0);
-        x.mend(0, 0, 3, 0);
+        x.mend(0, 0, 6, 0);
         DUE.is("so it is then", x.life(0), told);
     }
 }

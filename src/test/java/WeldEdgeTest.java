@@ -14,6 +14,7 @@ public final class WeldEdgeTest {
         nearBeingDone();
         nearToOthers();
         weldsStay();
+        weldsAhead();
         behindAfter();
         firstByNumbers();
         noOrder();
@@ -166,6 +167,46 @@ public final class WeldEdgeTest {
         DUE.is("order", x.order(), 0);
     }
 
+    /** The tape's strips, told behind others (good ones, or such with a FAULT), hang on none of these. */
+    private static void behind(String ahead, String text, int... due) {
+        for (int many = 1; many <= 3; many++) {
+            DeadPacks x = new DeadPacks();
+            for (int k = 0; k < many; k++) {
+                Due.tape(x, ahead).welds();
+                x.order();
+                Due.tape(x, due).check();
+            }
+            for (int k = 0; k < 2; k++) {
+                DUE.is("welds of " + text, Due.tape(x, text).welds(), due.length);
+                DUE.is("order of " + text + " behind " + ahead, x.order(), due.length);
+                for (int i = 0; i < due.length; i++) {
+                    DUE.is("orderAt(" + i + ")", x.orderAt(i), due[i]);
+                }
+                DUE.is("check of it", Due.tape(x, due).check(), -1);
+            }
+        }
+    }
+
+    private static void weldsAhead() {
+        DUE.by("The tape is the WELDS now: nothing of those ahead");
+        String near = "strip a 0+1- near 0-1+ near 0+1+ near 1+0-;strip b 5+6+ near 0-1+;";
+        behind(near, "strip a 0+1-;", 0);
+        behind(near, "strip a 0+1- near 0-0-;strip b 1+2-;", 0, 1);
+        behind(near + "?", "strip a 0+1-;", 0);
+        behind(near + "strip b", "strip a 0+1- near 5-5-;strip b 6+7+;", 0, 1);
+        String after = "strip a 0+1+;strip b 2+3+ after a;strip c 4+5+ after b after a;";
+        behind(after, "strip a 0+1-;strip b 9+9+ near 0-1+;", 1, 0);
+        behind(after, "strip c 0+1-;strip b 1+2-;strip a 9+9+ near 0-2+;", 0, 2, 1);
+        behind(after + "strip a", "strip a 0+1-;strip b 9+9+ near 0-1+;", 1, 0);
+        // ahead no beginning but that with b goes on; now there is one with a
+        behind("strip a 10+11-;strip b 1+1+;strip c 11+12-;strip d 2+2+ after c near 10-12+;",
+                "strip a 1+1+;strip b 10+11-;strip c 1+1+;strip d 10+11-;", 0, 1, 2, 3);
+        behind("strip a 0+0-;strip b 1+1-;strip c 2+2-;", "strip a 1+1+;strip b 1+1+;strip c 1+1+;", 0, 1, 2);
+        String names = "strip a 0+1+;strip b 2+3+;";
+        behind(names, "strip b 0+1+;strip a 2+3+ after b;", 0, 1);
+        behind(names + "strip a", "strip b 0+1+;strip a 2+3+ after b;", 0, 1);
+    }
+
     private static void behindAfter() {
         DUE.by("ORDER: all strips, each behind those it is 'after'");
         order("strip a 0+1+;strip b 2+3+ after a;", 0, 1);
@@ -207,6 +248,13 @@ public final class WeldEdgeTest {
         // likewise f behind i behind g, with strips ahead and between that may come at any time
         order("strip a 1+1+;strip b 1+1+;strip c 1+1+;strip d 1+1+;strip e 1+1+;strip f 10+11-;strip g 11+12-;"
                 + "strip h 1+1+;strip i 2+2+ after g near 10-12+;", 0, 1, 2, 3, 4, 6, 7, 8, 5);
+        // f, g and h alone can begin; b to e must be behind a, which is behind h, which is behind g
+        order("strip a 10+11-;strip b 1+1+ after a;strip c 1+1+ after a;strip d 1+1+ after a;strip e 1+1+ after a;"
+                + "strip f 1+1+;strip g 11+12-;strip h 2+2+ after g near 10-12+;", 5, 6, 7, 0, 1, 2, 3, 4);
+        // the same, and f must be behind a
+        order("strip a 10+11- near 10-14+;strip b 1+1+ after a;strip c 1+1+ after a;strip d 1+1+ after a;"
+                + "strip e 1+1+ after a;strip f 11+14-;strip g 11+12-;strip h 2+2+ after g near 10-12+;",
+                6, 7, 0, 1, 2, 3, 4, 5);
         // b must be ahead of a, but it is behind a
         none("strip a 10+11-;strip b 2+2+ after a near 10-11+;strip c 1+1+;");
         // c must be behind b, and what is near to it must be ahead of b

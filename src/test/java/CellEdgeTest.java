@@ -35,6 +35,7 @@ public final class CellEdgeTest {
         longDays();
         meetsNone();
         meetsWithout();
+        meetsJoined();
         meetsThen();
         DUE.finish();
     }
@@ -662,6 +663,39 @@ public final class CellEdgeTest {
         DUE.is("FLOW", y.about(2, 4), 1000000 / 2995);
         DUE.is("hold>999", met(y, "hold>999"), 1);
         DUE.is("pass>999", met(y, "pass>999"), 2);
+    }
+
+    /** Which of CELLS 0 to 7 MEET it, as bits. */
+    private static int bits(DeadPacks x, String rule) {
+        Due.tape(x, rule).rule();
+        int bits = 0;
+        for (int k = 0; x.meets(k) >= 0; k++) {
+            bits |= 1 << x.meets(k);
+        }
+        return bits;
+    }
+
+    private static void meetsJoined() {
+        DUE.by("ALL { 'or' ALL }, ONE { 'and' ONE }, 'not' ONE, ( COND )");
+        // CELL c is in x if bit 0 of it is set, lies if bit 1 is, holds 9 if bit 2 is
+        DeadPacks x = Due.housed("bench b;box y;box x;");
+        for (int c = 0; c < 8; c++) {
+            x.cell(c & 1);
+            x.rest(c, 0, 4000, (c & 2) != 0 ? 99 : 0);
+            x.read(c, 0, (c & 4) != 0 ? 9 : 5, 50);
+        }
+        int a = 0b10101010;
+        int b = 0b11001100;
+        int c = 0b11110000;
+        String[] rules = {"in x", "lies", "hold=9", "in x or lies", "in x and lies", "in x or lies and hold=9",
+            "in x and lies or hold=9", "(in x or lies) and hold=9", "in x and (lies or hold=9)", "not in x or lies",
+            "not (in x or lies)", "not in x and lies", "not (in x and lies)", "not not in x", "in x or lies or hold=9",
+            "in x and lies and hold=9", "not in x and not lies and not hold=9", "in x or not (lies and not hold=9)"};
+        int[] due = {a, b, c, a | b, a & b, a | b & c, a & b | c, (a | b) & c, a & (b | c), ~a | b, ~(a | b), ~a & b, ~(a & b),
+            a, a | b | c, a & b & c, ~a & ~b & ~c, a | ~(b & ~c)};
+        for (int i = 0; i < rules.length; i++) {
+            DUE.is(rules[i], bits(x, rules[i]), due[i] & 255);
+        }
     }
 
     private static void meetsThen() {

@@ -132,7 +132,12 @@ public final class RowsEdgeTest {
         DUE.is("WEAK", Due.tape(x, 0, 1, 2, 3, 4, 5).rows(3), 61);
         DUE.is("UNEVEN", x.rowsBy(0), 9);
         rowsAre(x, 0, 1, 2, 2, 1, 0);
-        // WEAK is 40 either way, but 45 above it is less than 47 above
+        // 1+9 is WEAK: 4+6 | 8+8 comes first, 4+8 | 6+8 is less UNEVEN
+        DeadPacks w = holding(1, 9, 4, 6, 8, 8);
+        DUE.is("WEAK", Due.tape(w, 0, 1, 2, 3, 4, 5).rows(3), 10);
+        DUE.is("UNEVEN", w.rowsBy(0), 4);
+        rowsAre(w, 0, 0, 1, 2, 1, 2);
+        // 130 in three ROWS: 43 43 44 is the best there can be: 20+23 | 20+24 | 21+22
         DeadPacks y = holding(20, 20, 21, 22, 23, 24);
         DUE.is("WEAK", Due.tape(y, 0, 1, 2, 3, 4, 5).rows(3), 43);
         DUE.is("UNEVEN", y.rowsBy(0), 1);

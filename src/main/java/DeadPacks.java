@@ -682,17 +682,15 @@ public final class DeadPacks {
                 }
             }
             if (letters + digits == 0) {
-                sort = isSign(first) ? first : WRONG;
+                boolean sign = first == ';' || first == '+' || first == '-' || first == '(' || first == ')'
+                        || first >= '<' && first <= '>';
+                sort = sign ? first : WRONG;
                 next++;
             } else if (digits == 0) {
                 sort = letters <= 6 ? WORD : WRONG;
             } else {
                 sort = letters == 0 && digits <= 3 ? NUMBER : WRONG;
             }
-        }
-
-        private static boolean isSign(int c) {
-            return c == ';' || c == '+' || c == '-' || c == '(' || c == ')' || c >= '<' && c <= '>';
         }
 
         private static int wordOf(int value) {

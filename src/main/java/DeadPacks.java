@@ -1409,8 +1409,12 @@ public final class DeadPacks {
 
         int shortOf(int c, Truth t, int fuse) {
             int p = packOf[c];
+            int place = placeOf(p, c);
+            if (place == NONE) {
+                return NONE;
+            }
             int each = rowSize(p);
-            int start = placeOf(p, c) / Math.max(1, each) * each;
+            int start = cut(place, each) * each;
             int gone = 0;
             int sum = 0;
             for (int i = start; i < start + each; i++) {
@@ -1913,7 +1917,7 @@ public final class DeadPacks {
             int done = 0;
             for (int i = 0; i < size; i++) {
                 int k = t.at(i);
-                if (k >= w.many || !isNext(w, done, k) || !weld(w, i, k)) {
+                if (k < 0 || k >= w.many || !isNext(w, done, k) || !weld(w, i, k)) {
                     return i;
                 }
                 done |= 1 << k;
